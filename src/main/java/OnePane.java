@@ -101,18 +101,19 @@ public final class OnePane {
 
     private final Tape tape = new Tape(TAPE_ROOM);
     private final Tape written = new Tape(IMAGE_ROOM);
-    private final Reader reader = new Reader();
-    private final Grammar grammar = new Grammar(reader);
-    private final Statements statements = new Statements(reader, grammar);
     private final Program question = new Program();
+    /** What the latest pane told; the next one is read into the draft, so that all stays if it has a fault. */
+    private Plan plan = new Plan();
+    private Plan draft = new Plan();
+    private final Reader reader = new Reader();
+    private final Grammar grammar = new Grammar(reader, question);
+    private final Statements statements = new Statements(reader, grammar, draft);
     private final Town town = new Town();
     private final Town ahead = new Town();
     private final Past past = new Past();
     private final Sets sets = new Sets();
-    private final int[] refused = new int[KINDS_REFUSED];
-    private Plan plan = new Plan();
-    private Plan draft = new Plan();
     private final Reckoner reckoner = new Reckoner(plan, town);
+    private final int[] refused = new int[KINDS_REFUSED];
     private int draws = 1;
     private int latestFault = 0;
     private int latestPlace = NONE;
@@ -584,8 +585,7 @@ public final class OnePane {
     }
 
     private int answerOf(int person, int holding) {
-        reckoner.showPerson(person);
-        reckoner.abacus.values[W_HOLDS] = holding >> person & 1;
+        reckoner.showAsked(person, holding);
         return reckoner.abacus.run(question);
     }
 
@@ -894,11 +894,12 @@ public final class OnePane {
     /** Reads sums, tests and questions. What is open at once is carried along, and never goes beyond its limit. */
     private static final class Grammar {
         final Reader reader;
-        Program program = new Program();
-        int realm = IN_ADDS;
+        Program program;
+        int realm = IN_QUESTION;
 
-        Grammar(Reader reader) {
+        Grammar(Reader reader, Program program) {
             this.reader = reader;
+            this.program = program;
         }
 
         void readSum(Program into, int where) {
@@ -1076,11 +1077,12 @@ public final class OnePane {
     private static final class Statements {
         final Reader reader;
         final Grammar grammar;
-        Plan plan = new Plan();
+        Plan plan;
 
-        Statements(Reader reader, Grammar grammar) {
+        Statements(Reader reader, Grammar grammar, Plan plan) {
             this.reader = reader;
             this.grammar = grammar;
+            this.plan = plan;
         }
 
         /** How many statements there are, if the reader has found no fault. */
@@ -1428,7 +1430,7 @@ public final class OnePane {
     /** The towns ahead of the last acts, in a ring. */
     private static final class Past {
         final Town[] towns = new Town[MOST_UNDONE];
-        int end = 0;
+        int top = 0;
         int count = 0;
 
         Past() {
@@ -1438,8 +1440,8 @@ public final class OnePane {
         }
 
         void push(Town town) {
-            towns[end].takeAll(town);
-            end = (end + 1) % MOST_UNDONE;
+            towns[top].takeAll(town);
+            top = (top + 1) % MOST_UNDONE;
             count = Math.min(count + 1, MOST_UNDONE);
         }
 
@@ -1447,9 +1449,9 @@ public final class OnePane {
             if (count == 0) {
                 return false;
             }
-            end = (end + MOST_UNDONE - 1) % MOST_UNDONE;
+            top = (top + MOST_UNDONE - 1) % MOST_UNDONE;
             count--;
-            into.takeAll(towns[end]);
+            into.takeAll(towns[top]);
             return true;
         }
     }
@@ -1459,12 +1461,11 @@ public final class OnePane {
         final int[] values = new int[WORD_COUNT];
         /** 24 wait at the most: five ahead of the first bracket, three at each of six, and the last one. */
         final int[] stack = new int[40];
-        Plan plan;
-        Town town;
+        /** How far each of the people stands from the one of whom it is asked. */
+        final int[] far = new int[MOST_PEOPLE];
+        int people = 0;
 
-        Abacus(Plan plan, Town town) {
-            this.plan = plan;
-            this.town = town;
+        Abacus() {
             values[W_ALL] = 1;
         }
 
@@ -1520,17 +1521,13 @@ public final class OnePane {
         }
 
         private int farTo(int other) {
-            int person = values[W_NUMBER];
-            if (!plan.hasPerson(other) || !plan.hasPerson(person)) {
-                return 0;
-            }
-            return town.between(person, town.column[other], town.row[other]);
+            return other >= 0 && other < people ? far[other] : 0;
         }
     }
 
     /** Who holds, what he lifts, what cells bear, in the town that was looked at last. */
     private static final class Reckoner {
-        final Abacus abacus;
+        final Abacus abacus = new Abacus();
         final int[] lift = new int[MOST_PEOPLE * MOST_CELLS];
         final int[] near = new int[MOST_PEOPLE];
         final int[] lifted = new int[MOST_CELLS];
@@ -1541,11 +1538,13 @@ public final class OnePane {
         int stronger = 0;
         /** The set of people whose lifting stands in lifted: hours on end it stays the same one. */
         int liftedBy = NONE;
+        /** Of the place that was tried last: how many cells crack, and the least slack. */
+        int triedCount = 0;
+        int triedLeast = 0;
 
         Reckoner(Plan plan, Town town) {
             this.plan = plan;
             this.town = town;
-            abacus = new Abacus(plan, town);
         }
 
         /** To be called again when people have moved, but not from hour to hour. */
@@ -1553,8 +1552,6 @@ public final class OnePane {
             plan = newPlan;
             town = newTown;
             stronger = newStronger;
-            abacus.plan = newPlan;
-            abacus.town = newTown;
             liftedBy = NONE;
             for (int person = 0; person < plan.people; person++) {
                 near[person] = countNear(person);
@@ -1590,13 +1587,23 @@ public final class OnePane {
             abacus.values[W_CRACKS] = Long.bitCount(town.cracked);
         }
 
-        void showPerson(int person) {
-            abacus.values[W_NUMBER] = person;
-            abacus.values[W_COLUMN] = town.column[person];
-            abacus.values[W_ROW] = town.row[person];
+        private void showPerson(int person) {
             abacus.values[W_LIFTS] = plan.strength[person] + stronger;
             abacus.values[W_TIRED] = town.tired[person];
             abacus.values[W_NEAR] = near[person];
+        }
+
+        /** A question may ask more of a person than the test of holds does. */
+        void showAsked(int person, int holding) {
+            showPerson(person);
+            abacus.values[W_NUMBER] = person;
+            abacus.values[W_COLUMN] = town.column[person];
+            abacus.values[W_ROW] = town.row[person];
+            abacus.values[W_HOLDS] = holding >> person & 1;
+            abacus.people = plan.people;
+            for (int other = 0; other < plan.people; other++) {
+                abacus.far[other] = town.between(person, town.column[other], town.row[other]);
+            }
         }
 
         int holders() {
@@ -1744,11 +1751,11 @@ public final class OnePane {
                     int place = plan.cellAt(column, row);
                     int stands = town.standing(plan, place);
                     if (stands == NONE || stands == person) {
-                        int count = countCracking(person, column, row);
-                        int least = leastSlack(person, column, row);
-                        if (best == NONE || count < best >> 6 || count == best >> 6 && least > bestLeast) {
-                            best = packed(place, count);
-                            bestLeast = least;
+                        tryPlace(person, column, row);
+                        if (best == NONE || triedCount < best >> 6
+                            || triedCount == best >> 6 && triedLeast > bestLeast) {
+                            best = packed(place, triedCount);
+                            bestLeast = triedLeast;
                         }
                     }
                 }
@@ -1756,32 +1763,20 @@ public final class OnePane {
             return best;
         }
 
-        private int countCracking(int person, int column, int row) {
-            int count = 0;
+        private void tryPlace(int person, int column, int row) {
+            triedCount = 0;
+            triedLeast = FAR_NUMBER;
             for (int r = 0; r < plan.rows; r++) {
                 for (int c = 0; c < plan.columns; c++) {
                     int place = plan.cellAt(c, r);
-                    int steps = Math.abs(column - c) + Math.abs(row - r);
-                    if (!town.isCracked(place) && slack[place] + liftOver(person, steps) < 0) {
-                        count++;
-                    }
-                }
-            }
-            return count;
-        }
-
-        private int leastSlack(int person, int column, int row) {
-            int least = FAR_NUMBER;
-            for (int r = 0; r < plan.rows; r++) {
-                for (int c = 0; c < plan.columns; c++) {
-                    int place = plan.cellAt(c, r);
-                    int steps = Math.abs(column - c) + Math.abs(row - r);
                     if (!town.isCracked(place)) {
-                        least = Math.min(least, slack[place] + liftOver(person, steps));
+                        int steps = Math.abs(column - c) + Math.abs(row - r);
+                        int tried = slack[place] + liftOver(person, steps);
+                        triedCount += tried < 0 ? 1 : 0;
+                        triedLeast = Math.min(triedLeast, tried);
                     }
                 }
             }
-            return least;
         }
     }
 

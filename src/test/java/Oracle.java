@@ -14,6 +14,7 @@ final class Oracle {
         "fades", "stone", "hail", "hour", "cracks", "weight", "tired", "near", "number", "column", "row", "far", "or",
         "and", "not", "all", "min", "max");
 
+    @SuppressWarnings("serial")
     static final class Fault extends RuntimeException {
         final int kind;
         final int at;
