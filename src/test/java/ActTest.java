@@ -225,6 +225,18 @@ public final class ActTest extends PromiseBase {
         d.bytes(0, 0, 0, 0);
         d.x.sound();
         knock(d, -1, -1, -1);
+        StringBuilder ten = new StringBuilder("pane 5 by 2 tough 0;fades 0;");
+        for (int i = 0; i < 10; i++) {
+            ten.append("pole ").append((char) ('a' + i)).append(" at ").append(i % 5).append(" ").append(i / 5).append(" lifts 99;");
+        }
+        d.with(ten.toString());
+        due("all sets", 1024, d.x.who(0));
+        knock(d, 0, 0, 252);
+        d.bytes(4, 1, 1489 >> 8, 1489 & 255);
+        d.x.sound();
+        who(d, 1, 1023, 1023);
+        knock(d, 0, 0, 1);
+        due("slack of all", 989, d.x.slack(4, 1));
         d.with("pane 2 by 2 tough 0;");
         knock(d, 0, 0, 1);
         d.x.hours(1);
@@ -357,6 +369,8 @@ public final class ActTest extends PromiseBase {
         d.with("pane 2 by 2 tough 21;hail 100;adds 0;");
         due("always", 100, d.x.chance(100));
         due("borne", 0, d.x.has(4));
+        d.with("pane 3 by 3 tough 9;");
+        due("without hail", 0, d.x.chance(100) + d.x.chance(100) + d.x.chance(100));
         d.with("pane 3 by 3 tough 9;hail 0;");
         due("never", 0, d.x.chance(50));
         d.x.seed(1);

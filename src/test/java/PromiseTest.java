@@ -203,6 +203,13 @@ public final class PromiseTest extends PromiseBase {
         d.dueFault(b + "adds (1;", 1, 27);
         d.dueFault(b + "adds min 1;", 1, 29);
         d.dueFault(b + "adds min(1);", 1, 30);
+        d.dueFault(b + "adds min;", 1, 28);
+        d.dueFault(b + "adds 1 43 1;", 1, 27);
+        d.dueFault(b + "adds min(((((1))))),2);", 1, 38);
+        d.dueFault(b + "adds min((((((1))))),2);", 0, -1);
+        d.dueFault(b + "adds min(((((((1)))))),2);", 4, 34);
+        d.dueFault(b + "adds min(2,(((((1))))));", 0, -1);
+        d.dueFault(b + "adds min(2,((((((1)))))));", 4, 36);
         d.dueFault(b + "adds max(1,2;", 1, 32);
         d.dueFault(b + "adds hour3;", 1, 29);
         d.dueFault(b + "adds far 1;", 1, 25);
@@ -232,6 +239,25 @@ public final class PromiseTest extends PromiseBase {
         d.dueFault(b + "holds [not [(1)=1 or not [not all]]];", 0, -1);
         d.dueFault(b + "holds [not [(1)=1 or not [not [all]]]];", 4, 50);
         d.dueFault(b + "holds [[[[[[+", 1, 32);
+    }
+
+    private static void p5long() {
+        topic("5 fault of long texts");
+        Desk d = new Desk();
+        String sum = "pane 2 by 2 tough 9;adds 1" + "+1".repeat(786) + ";";
+        due("1599 bytes", 2, d.pane(sum));
+        due("1600 bytes", 2, d.pane(sum + " "));
+        d.x.hours(1);
+        d.dueFault(sum + "+", 1, 1599);
+        d.dueFault("(".repeat(1600), 1, 0);
+        d.dueFault(sum.replace(";adds 1", ";adds +"), 1, 25);
+        d.dueFault("pane 2 by 2 tough 9;" + "a".repeat(1580), 1, 20);
+        d.dueFault("pane 2 by 2 tough 9;pole " + "a".repeat(1575), 1, 31);
+        d.dueFault("pane 2 by 2 tough " + "9".repeat(1582), 1, 22);
+        d.dueFault(" ".repeat(1600), 1, 1600);
+        d.with("pane 2 by 2 tough 0;adds 1" + "+1".repeat(700) + ";");
+        d.x.hours(1);
+        due("a long sum", 1 + 2 * 701, d.x.cell(0, 0, 2));
     }
 
     private static void p6() {
@@ -462,6 +488,7 @@ public final class PromiseTest extends PromiseBase {
         p5();
         p5poles();
         p5rules();
+        p5long();
         p6();
         p7();
         p8();
