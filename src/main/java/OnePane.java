@@ -889,6 +889,15 @@ public final class OnePane {
             length = 0;
             addStep(word);
         }
+
+        boolean hasStep(int word) {
+            for (int i = 0; i < length; i++) {
+                if (code[i] == ~word) {
+                    return true;
+                }
+            }
+            return false;
+        }
     }
 
     /** Reads sums, tests and questions. What is open at once is carried along, and never goes beyond its limit. */
@@ -1200,6 +1209,7 @@ public final class OnePane {
             plan.toldAdds = true;
             reader.step();
             grammar.readSum(plan.adds, IN_ADDS);
+            plan.addsByHour = plan.adds.hasStep(W_HOUR);
         }
 
         private void readHolds() {
@@ -1224,6 +1234,7 @@ public final class OnePane {
         final Program holds = new Program();
         boolean toldAdds = false;
         boolean toldHolds = false;
+        boolean addsByHour = false;
         int columns = 0;
         int rows = 0;
         int people = 0;
@@ -1240,6 +1251,7 @@ public final class OnePane {
             holds.setStep(W_ALL);
             toldAdds = false;
             toldHolds = false;
+            addsByHour = false;
             columns = 0;
             rows = 0;
             people = 0;
@@ -1538,6 +1550,9 @@ public final class OnePane {
         int stronger = 0;
         /** The set of people whose lifting stands in lifted: hours on end it stays the same one. */
         int liftedBy = NONE;
+        /** The hour and the cracks whose loads stand in load, for the same reason. */
+        int loadedHour = NONE;
+        long loadedCracks = 0;
         /** Of the place that was tried last: how many cells crack, and the least slack. */
         int triedCount = 0;
         int triedLeast = 0;
@@ -1553,6 +1568,7 @@ public final class OnePane {
             town = newTown;
             stronger = newStronger;
             liftedBy = NONE;
+            loadedHour = NONE;
             for (int person = 0; person < plan.people; person++) {
                 near[person] = countNear(person);
                 measureLift(person);
@@ -1620,27 +1636,39 @@ public final class OnePane {
 
         /** Loads and slacks of all cells, if these people hold. */
         void balance(int holding) {
-            measureLoads();
+            if (!hasLoads()) {
+                measureLoads();
+            }
             measureLifted(holding);
             for (int place = 0; place < plan.cells(); place++) {
                 slack[place] = lifted[place] + plan.tough - load[place];
             }
         }
 
+        private boolean hasLoads() {
+            boolean timeFits = loadedHour == town.hour || loadedHour != NONE && !plan.addsByHour;
+            return timeFits && loadedCracks == town.cracked;
+        }
+
         private void measureLoads() {
+            loadedHour = town.hour;
+            loadedCracks = town.cracked;
             for (int place = 0; place < plan.cells(); place++) {
                 load[place] = plan.weight[place];
             }
-            if (town.cracked == 0) {
-                return;
-            }
             showTime();
-            for (int row = 0; row < plan.rows; row++) {
+            int summedWeight = NONE;
+            int sum = 0;
+            for (int row = 0; row < plan.rows && town.cracked != 0; row++) {
                 for (int column = 0; column < plan.columns; column++) {
                     int place = plan.cellAt(column, row);
                     if (town.isCracked(place)) {
-                        abacus.values[W_WEIGHT] = plan.weight[place];
-                        loadNeighbours(column, row, abacus.run(plan.adds));
+                        if (plan.weight[place] != summedWeight) {
+                            summedWeight = plan.weight[place];
+                            abacus.values[W_WEIGHT] = summedWeight;
+                            sum = abacus.run(plan.adds);
+                        }
+                        loadNeighbours(column, row, sum);
                     }
                 }
             }
