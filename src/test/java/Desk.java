@@ -4,7 +4,11 @@ import java.nio.charset.StandardCharsets;
 final class Desk {
     static int wrong = 0;
     static String topic = "";
+    /** An object is used for 512 calls at the most; faults are asked of a new one in time. */
+    private static final int USED_UP = 250;
     OnePane x = new OnePane();
+    private int used = 0;
+    private String told = "";
 
     static void due(String call, long want, long got) {
         if (want != got) {
@@ -42,7 +46,19 @@ final class Desk {
     }
 
     void text(String text) {
+        used += 5 + text.length() / 20;
         put(x, text.getBytes(StandardCharsets.ISO_8859_1));
+    }
+
+    /** The town of the latest pane goes on in a new object, with nothing done in it yet. */
+    private void renew() {
+        if (used > USED_UP) {
+            x = new OnePane();
+            used = 0;
+            if (!told.isEmpty()) {
+                pane(told);
+            }
+        }
     }
 
     void bytes(int... values) {
@@ -55,7 +71,9 @@ final class Desk {
 
     int pane(String text) {
         text(text);
-        return x.pane();
+        int count = x.pane();
+        told = count == OnePane.NONE ? told : text;
+        return count;
     }
 
     /** A pane that must be one. */
@@ -73,12 +91,14 @@ final class Desk {
     }
 
     void dueFault(String text, int fault, int place) {
+        renew();
         due("pane(" + text + ")", fault == 0 ? 0 : OnePane.NONE, Math.min(0, pane(text)));
         due("fault of " + text, fault, x.fault(0));
         due("place in " + text, place, x.fault(1));
     }
 
     void dueAskFault(String text, int fault, int place) {
+        renew();
         long answer = ask(text);
         due("ask(" + text + ") is a fault", fault != 0, answer == OnePane.NOTHING);
         due("fault of " + text, fault, x.fault(0));

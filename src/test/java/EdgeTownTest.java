@@ -846,6 +846,9 @@ public final class EdgeTownTest extends PromiseBase {
         knock(d, 1, 0, 1);
         d.with("pane 5 by 2 tough 0;fades 0;" + ten(5, 99));
         knock(d, 0, 0, 252);
+        sound(d, 4, 1, 989);
+        who(d, 1, 1023, 1023);
+        knock(d, 0, 0, 1);
         d.with("pane 5 by 2 tough 0;fades 0;" + ten(5, 0));
         knock(d, 0, 0, 1024);
         d.with("pane 5 by 2 tough 0;fades 99;" + ten(5, 9));
