@@ -645,6 +645,14 @@ public final class EdgeActTest extends PromiseBase {
         d.x.end(0);
         d.bytes(with(with(with(with(least, 8, 2), 9, 1), 12, 0), 13, 0));
         due("people have changed places", true, d.x.on());
+        d.x.seed(seedFor(50, 0, -1));
+        d.bytes(least);
+        due("on", true, d.x.on());
+        due("the seed is no part of it: 50 is not below hail", 0, d.x.chance(1));
+        d.x.seed(seedFor(49, 0, -1));
+        d.bytes(least);
+        due("on", true, d.x.on());
+        due("the seed is no part of it: 49 is", 1, d.x.chance(1));
         Desk nobody = new Desk().with("pane 2 by 2 tough 9;");
         nobody.bytes(checked(new int[] {0, 5, 0, 1, 0, 1, 0}));
         due("nobody", true, nobody.x.on());
